@@ -19,6 +19,7 @@ public final class RunsTest {
         whatFailsFirst();
         capacities();
         closuresCountOnce();
+        chainOfClosures();
         selves();
         lastCallsLeaveNothing();
         results();
@@ -56,6 +57,13 @@ public final class RunsTest {
         about("9: refused beginnings change nothing", m, 1, 1, 1, 1, 0, 0);
         m.begin(seven, 120);
         about("9: in place of the one before", m, 1, 0, 0, 0, 0, 0);
+        int zero = m.variable(0);
+        m.begin(m.call(m.function(-1, 0, zero), seven), 120);
+        m.steps(5);
+        about("9: variable 0 has a value", m, 1, 5, 1, 4, 0, 0);
+        m.begin(zero, 120);
+        about("9: without variables", m, 1, 0, 0, 0, 0, 0);
+        Check.fails("9: without the value of the run before", NO_ELEMENT, () -> m.steps(1));
     }
 
     private static void wrongSteps() {
@@ -272,6 +280,25 @@ public final class RunsTest {
         m.begin(m.call(holder, same), 120);
         m.steps(6);
         about("11: a closure held by a closure", m, 1, 6, 4, 5, 0, 2);
+    }
+
+    /** fun self 2 of 0 . self (fun 1 . 0 1): each round makes a closure that holds the one before. */
+    private static void chainOfClosures() {
+        TrimmedMachine m = new TrimmedMachine();
+        int one = m.variable(1);
+        int next = m.function(-1, 1, m.call(m.variable(0), one));
+        int chain = m.function(2, 0, m.call(m.variable(2), next));
+        m.begin(m.call(chain, m.function(-1, 1, one)), 120);
+        m.steps(5);
+        about("11: the first round, two closures", m, 1, 5, 4, 5, 0, 2);
+        for (int round = 1; round <= 57; round++) {
+            m.steps(5);
+            about("11: round " + round, m, 1, 5 + 5 * round, 4 + 2 * round, 5 + 2 * round, 0, 2 + round);
+        }
+        m.steps(3);
+        about("11: before there is no room", m, 1, 293, 119, 119, 1, 59);
+        Check.fails("10: no room for one more", STATE, () -> m.steps(1));
+        about("11: no room for one more", m, 3, 293, 0, 119, 0, 0);
     }
 
     private static void selves() {
