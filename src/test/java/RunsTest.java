@@ -18,6 +18,7 @@ public final class RunsTest {
         wrongKindsOfValues();
         whatFailsFirst();
         capacities();
+        framesAlone();
         closuresCountOnce();
         chainOfClosures();
         selves();
@@ -256,6 +257,38 @@ public final class RunsTest {
             Check.same("11: within the capacity", m.about(3) <= capacity, true);
             Check.same("11: near the capacity", m.about(3) >= capacity - 2, true);
         }
+    }
+
+    /**
+     * fun self 1 of 0 . if 0 then self (0 - 1) + 1 else a sum of eight ones: 113 frames for the rounds, and
+     * then one for each height of the sum, each with space 1 and nothing beside them.
+     */
+    private static void framesAlone() {
+        TrimmedMachine m = new TrimmedMachine();
+        int zero = m.variable(0);
+        int one = m.number(1);
+        int sum = one;
+        for (int height = 1; height <= 7; height++) {
+            sum = m.operation(0, sum, one);
+        }
+        int rest = m.call(m.variable(1), m.operation(1, zero, one));
+        int f = m.function(1, 0, m.choice(zero, m.operation(0, rest, one), sum));
+        m.begin(m.call(f, m.number(113)), 120);
+        // 5 steps to the first choice, 13 for each round, 3 to the sum
+        int before = 5 + 13 * 113 + 3;
+        int done = m.steps(500) + m.steps(500) + m.steps(before - 1000);
+        Check.same("10: steps to the sum", done, before);
+        about("11: the sum", m, 1, before, 113, 119, 113, 0);
+        m.steps(7);
+        about("11: as many frames as any capacity", m, 1, before + 7, 120, 120, 120, 0);
+        Check.fails("10: no room for the int", STATE, () -> m.steps(1));
+        about("11: no room for the int", m, 3, before + 7, 0, 120, 0, 0);
+        m.begin(m.call(f, m.number(114)), 120);
+        m.steps(500);
+        m.steps(500);
+        Check.fails("10: no room for one frame more", STATE, () -> { m.steps(500); return m.steps(500); });
+        about("11: no room for one frame more", m, 3, before + 13 + 6, 0, 120, 0, 0);
+        Check.same("10: the run is over", m.steps(1), 0);
     }
 
     private static void closuresCountOnce() {
