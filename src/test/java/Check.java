@@ -5,14 +5,22 @@ final class Check {
     }
 
     private static int wrong = 0;
+    private static String sentence = "";
 
     private Check() {
+    }
+
+    /** Runs the test of one sentence of the document; the sentence is told with each wrong answer. */
+    static void sentence(String words, Runnable test) {
+        sentence = "\"" + words + "\": ";
+        test.run();
+        sentence = "";
     }
 
     static void same(String what, Object got, Object due) {
         if (!got.equals(due)) {
             wrong++;
-            System.out.println(what + " answered " + got + ", due is " + due);
+            System.out.println(sentence + what + " answered " + got + ", due is " + due);
         }
     }
 

@@ -2,6 +2,7 @@ import java.lang.reflect.Constructor;
 import java.lang.reflect.Field;
 import java.lang.reflect.Method;
 import java.lang.reflect.Modifier;
+import java.util.ArrayList;
 import java.util.Arrays;
 import java.util.TreeSet;
 
@@ -53,6 +54,29 @@ public final class FaceTest {
         Check.same("parameters of the constructor", constructors[0].getParameterCount(), 0);
         Check.same("modifiers of the constructor", Modifier.toString(constructors[0].getModifiers()), "public");
         Check.same("modifiers of the class", Modifier.toString(TrimmedMachine.class.getModifiers()), "public final");
+        namesOfTheFaceAlone();
         Check.finish();
+    }
+
+    /** No method that isn't public bears the name of a public one, here or in the classes inside. */
+    private static void namesOfTheFaceAlone() {
+        TreeSet<String> names = new TreeSet<>();
+        for (Method method : TrimmedMachine.class.getMethods()) {
+            names.add(method.getName());
+        }
+        ArrayList<Class<?>> all = new ArrayList<>(Arrays.asList(TrimmedMachine.class.getDeclaredClasses()));
+        for (Class<?> inside : all) {
+            int modifiers = inside.getModifiers();
+            Check.same(inside.getName() + " is static", Modifier.isStatic(modifiers), true);
+            Check.same(inside.getName() + " is hidden", Modifier.isPublic(modifiers) || Modifier.isProtected(modifiers), false);
+        }
+        all.add(TrimmedMachine.class);
+        for (Class<?> one : all) {
+            for (Method method : one.getDeclaredMethods()) {
+                boolean hidden = !Modifier.isPublic(method.getModifiers());
+                Check.same(one.getName() + "." + method.getName() + " bears a name of the face",
+                    hidden && names.contains(method.getName()), false);
+            }
+        }
     }
 }
