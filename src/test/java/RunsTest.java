@@ -19,6 +19,7 @@ public final class RunsTest {
         whatFailsFirst();
         capacities();
         framesAlone();
+        framesBehindClosures();
         closuresCountOnce();
         chainOfClosures();
         selves();
@@ -289,6 +290,34 @@ public final class RunsTest {
         Check.fails("10: no room for one frame more", STATE, () -> { m.steps(500); return m.steps(500); });
         about("11: no room for one frame more", m, 3, before + 13 + 6, 0, 120, 0, 0);
         Check.same("10: the run is over", m.steps(1), 0);
+    }
+
+    /**
+     * (fun 5 . rounds 105 + 5 1) (deep 33): deep has 33 closures waiting at once and returns one more, made
+     * when all were there, which holds 1234 and deep: it must keep them when those 33 are gone and 106
+     * frames have come.
+     */
+    private static void framesBehindClosures() {
+        TrimmedMachine m = new TrimmedMachine();
+        int zero = m.variable(0);
+        int one = m.number(1);
+        int again = m.call(m.variable(1), m.operation(1, zero, one));
+        int rounds = m.function(1, 0, m.choice(zero, m.operation(0, again, one), zero));
+        int same = m.function(-1, 2, m.variable(2));
+        int keeper = m.function(-1, 4, m.function(-1, 3, m.choice(one, m.variable(4), m.variable(1))));
+        int deep = m.function(1, 0, m.choice(zero, m.call(same, again), m.call(keeper, m.number(1234))));
+        int sum = m.operation(0, m.call(rounds, m.number(105)), m.call(m.variable(5), one));
+        m.begin(m.call(m.function(-1, 5, sum), m.call(deep, m.number(33))), 120);
+        int mostFrames = 0;
+        int mostClosures = 0;
+        for (int calls = 0; calls < 150; calls++) {
+            Check.answerOf(() -> m.steps(17));
+            mostFrames = Math.max(mostFrames, m.about(4));
+            mostClosures = Math.max(mostClosures, m.about(5));
+        }
+        Check.same("10: many closures", mostClosures >= 34, true);
+        Check.same("10: many frames", mostFrames >= 105, true);
+        Check.same("12: what it holds, and a sum of 105", Check.answerOf(m::result), 1339);
     }
 
     private static void closuresCountOnce() {
